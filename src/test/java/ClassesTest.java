@@ -139,8 +139,7 @@ public final class ClassesTest {
     DUE.is("not the rest", x.apart(5, 5), 0);
   }
 
-  // Promise 8: terms above those that differ are not apart
-  // Promise 9
+  // Promises 8 and 9
   private static void consistentFollowsEquations() {
     CongruenceLedger x = constants(3);
     x.make(9, 0, NONE);
@@ -205,6 +204,7 @@ public final class ClassesTest {
     CongruenceLedger x = constants(4);
     x.make(9, 1, 2); // 4
     x.make(9, 1, NONE); // 5
+    DUE.is("there, the first", x.find(0, NONE, NONE), 0);
     DUE.is("there, no argument", x.find(3, NONE, NONE), 3);
     DUE.is("there, one argument", x.find(9, 1, NONE), 5);
     DUE.is("there, two arguments", x.find(9, 1, 2), 4);

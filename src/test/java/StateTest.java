@@ -70,6 +70,7 @@ public final class StateTest {
     x.make(1, NONE, NONE);
     x.make(2, 0, NONE);
     x.make(2, 0, 1);
+    DUE.is("again the first", x.make(0, NONE, NONE), 0);
     DUE.is("again no argument", x.make(1, NONE, NONE), 1);
     DUE.is("again one argument", x.make(2, 0, NONE), 2);
     DUE.is("again two arguments", x.make(2, 0, 1), 3);

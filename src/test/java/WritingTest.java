@@ -31,15 +31,17 @@ public final class WritingTest {
 
   private static void withoutEquations() {
     CongruenceLedger x = new CongruenceLedger();
-    x.make(0, NONE, NONE);
+    x.make(6, NONE, NONE);
+    writing(x, 0, 6);
+    DUE.is("best of the only term", x.best(0), 0);
     x.make(1, NONE, NONE);
     x.make(2, 0, NONE);
     x.make(3, 2, 1);
     x.make(4, 1, 3);
-    writing(x, 0, 0);
-    writing(x, 2, 2, 0);
-    writing(x, 3, 3, 2, 0, 1);
-    writing(x, 4, 4, 1, 3, 2, 0, 1);
+    writing(x, 0, 6);
+    writing(x, 2, 2, 6);
+    writing(x, 3, 3, 2, 6, 1);
+    writing(x, 4, 4, 1, 3, 2, 6, 1);
     DUE.is("best(4)", x.best(4), 4);
   }
 
