@@ -9,6 +9,8 @@ public final class ClassesTest {
     equalByCongruence();
     equalNeedsSymbolAndCount();
     equalByCongruenceDownAndUp();
+    equalByManyStepsDown();
+    equalByTheSecondArgumentAlone();
     termsMadeLaterAreEqualAtOnce();
     apartByDisequations();
     consistentFollowsEquations();
@@ -100,6 +102,47 @@ public final class ClassesTest {
     DUE.is("f^2(c) and c", x.equal(2, 0), 0);
     DUE.is("f^5(c) = c", x.equate(0, 5), 3);
     DUE.is("f(c) = c", x.equal(1, 0), 1);
+  }
+
+  /**
+   * Promises 7 and 14 to 16: each constant i is equal to f(i + 2), so that one equation of the last
+   * two goes down through all pairs of them, and each step is between lower numbers than the one
+   * before it.
+   */
+  private static void equalByManyStepsDown() {
+    CongruenceLedger x = constants(16);
+    for (int i = 2; i < 16; i++) {
+      x.make(0, i, NONE); // 14 + i
+    }
+    for (int i = 0; i < 14; i++) {
+      x.equate(i, 16 + i);
+    }
+    DUE.is("classes", x.classes(), 16);
+    DUE.is("the last two, and all below them", x.equate(14, 15), 8);
+    for (int i = 0; i < 16; i += 2) {
+      DUE.is("equal(" + i + ", " + (i + 1) + ")", x.equal(i, i + 1), 1);
+      DUE.is("since", x.since(i, i + 1), 15);
+      int used = (1 << 14) + (1 << 14) - (1 << i);
+      DUE.is("explanation", x.explanation(i, i + 1), used);
+      DUE.is("needed", x.needed(i + 1, i), used);
+    }
+    DUE.is("classes", x.classes(), 8);
+    DUE.is("not the others", x.equal(1, 2), 0);
+  }
+
+  // 'their first arguments are equal (if they have one) and their second ones (if they have two)'
+  private static void equalByTheSecondArgumentAlone() {
+    CongruenceLedger x = constants(4);
+    x.make(9, 0, 2); // 4
+    x.make(9, 1, 2); // 5
+    x.make(9, 0, 3); // 6
+    DUE.is("the same second argument", x.equal(4, 5), 0);
+    DUE.is("the same first argument", x.equal(4, 6), 0);
+    x.equate(2, 3);
+    DUE.is("equal second arguments, the same first", x.equal(4, 6), 1);
+    DUE.is("equal second arguments, another first", x.equal(5, 6), 0);
+    x.equate(1, 0);
+    DUE.is("equal first arguments too", x.equal(5, 6), 1);
   }
 
   // Promises 7 and 2

@@ -23,14 +23,19 @@ public final class FaceTest {
   public static void main(String[] args) throws IOException {
     Class<?> face = CongruenceLedger.class;
     DUE.is("public and final", face.getModifiers(), Modifier.PUBLIC | Modifier.FINAL);
+    DUE.is("it extends nothing", face.getSuperclass() == Object.class, true);
+    DUE.is("it implements nothing", face.getInterfaces().length, 0);
     methods(face);
     fields(face);
     constructors(face);
     for (Class<?> inside : face.getDeclaredClasses()) {
       DUE.is(inside + " is static", Modifier.isStatic(inside.getModifiers()), true);
-      staticFieldsAreFinal(inside);
+      staticFieldsAreConstants(inside);
       noFaceNames(inside);
+      isSmall(inside);
     }
+    isSmall(face);
+    DUE.is("at most twelve classes", face.getDeclaredClasses().length <= 11, true);
     DUE.is("NONE", CongruenceLedger.NONE, -1);
     DUE.is("BAD", CongruenceLedger.BAD, -2);
     DUE.is("FULL", CongruenceLedger.FULL, -3);
@@ -71,7 +76,7 @@ public final class FaceTest {
       shown.add(f.getName());
     }
     DUE.is("constants " + shown, shown.equals(new TreeSet<>(Set.of("NONE", "BAD", "FULL"))), true);
-    staticFieldsAreFinal(face);
+    staticFieldsAreConstants(face);
   }
 
   private static void constructors(Class<?> face) {
@@ -81,10 +86,25 @@ public final class FaceTest {
     DUE.is("it is public", made[0].getModifiers(), Modifier.PUBLIC);
   }
 
-  private static void staticFieldsAreFinal(Class<?> type) {
+  // Rule 5: a row that objects share would show in their answers or is at least static state
+  private static void staticFieldsAreConstants(Class<?> type) {
     for (Field f : type.getDeclaredFields()) {
-      boolean changing = Modifier.isStatic(f.getModifiers()) && !Modifier.isFinal(f.getModifiers());
-      DUE.is(f + " is static and not final", changing, false);
+      if (!Modifier.isStatic(f.getModifiers())) continue;
+      DUE.is(f + " is final", Modifier.isFinal(f.getModifiers()), true);
+      boolean plain = f.getType().isPrimitive() || f.getType() == String.class;
+      DUE.is(f + " is a number or a text", plain, true);
+    }
+  }
+
+  // Rule 11
+  private static void isSmall(Class<?> type) {
+    int fields = 0;
+    for (Field f : type.getDeclaredFields()) {
+      fields += Modifier.isStatic(f.getModifiers()) ? 0 : 1;
+    }
+    DUE.is(type + " has at most twenty fields", fields <= 20, true);
+    for (Method m : type.getDeclaredMethods()) {
+      DUE.is(m + " takes at most seven parameters", m.getParameterCount() <= 7, true);
     }
   }
 

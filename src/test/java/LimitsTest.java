@@ -1,3 +1,5 @@
+import java.util.ArrayList;
+import java.util.List;
 import java.util.function.ToLongFunction;
 
 /**
@@ -14,6 +16,8 @@ public final class LimitsTest {
     fiveHundredAndTwelveCallsOfOneKind();
     fiveHundredAndTwelveCallsInTurn();
     fiveHundredAndTwelveDearCalls();
+    theFiveHundredAndTwelfthCallOfEachKind();
+    fiveHundredAndTwelveCallsOfEachQuestion();
     termsAreNumberedFromZeroToThirtyNine();
     symbolsAreZeroToFifteen();
     argumentsAreThereBefore();
@@ -114,6 +118,41 @@ public final class LimitsTest {
       DUE.is("needed", x.needed(15, 39), 1 << 23);
       DUE.is("weight", x.weight(39), 16);
     }
+  }
+
+  // 'at most 512 calls': the 512th is answered as it would have been before, whichever call it is
+  private static void theFiveHundredAndTwelfthCallOfEachKind() {
+    for (Scene scene : List.of(Scene.small(), Scene.contradicted(), Scene.allFull())) {
+      List<Call> fillers = Unchanged.looks(Math.min(scene.terms, 3));
+      List<Call> calls = new ArrayList<>(Unchanged.looks(scene.terms));
+      calls.addAll(List.of(Call.make(15, 0, NONE), Call.make(0, NONE, NONE), Call.make(16, 0, 0),
+          Call.equate(0, scene.terms - 1), Call.differ(0, 0), Call.open(), Call.close()));
+      for (Call call : calls) {
+        CongruenceLedger x = scene.build();
+        for (int made = scene.callsToBuild(); made < 511; made++) {
+          fillers.get(made % fillers.size()).ask(x);
+        }
+        DUE.is(scene.name + ": as the 512th, " + call.text(), call.ask(x), call.ask(scene.build()));
+      }
+    }
+  }
+
+  // 'at most 512 calls': a question can be asked until then
+  private static void fiveHundredAndTwelveCallsOfEachQuestion() {
+    Scene scene = Scene.small();
+    for (Call question : Unchanged.looks(scene.terms)) {
+      long answer = question.ask(scene.build());
+      CongruenceLedger x = scene.build();
+      for (int call = scene.callsToBuild() + 1; call <= 512; call++) {
+        DUE.is("call " + call + ", " + question.text(), question.ask(x), answer);
+      }
+    }
+    CongruenceLedger x = new CongruenceLedger();
+    for (int call = 1; call <= 510; call++) {
+      x.terms();
+    }
+    DUE.is("the 511th opens", x.open(), 1);
+    DUE.is("the 512th closes", x.close(), 0);
   }
 
   // 'TERMS are numbered 0, 1, .. as they are made; at most 40 are there'

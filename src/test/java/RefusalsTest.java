@@ -13,20 +13,14 @@ public final class RefusalsTest {
   private static final int FULL = CongruenceLedger.FULL;
   private static final int LEAST = Integer.MIN_VALUE;
   private static final int GREATEST = Integer.MAX_VALUE;
-  /** So many looks before, as many behind, and the calls that build a scene stay below 512. */
-  private static final int LOOKS_AT_ONCE = 200;
   private static final Due DUE = new Due("RefusalsTest");
 
   private final Scene scene;
-  private final List<Call> looks;
-  private final List<List<Call>> sequels;
 
   private record Refusal(Call call, long due) {}
 
   private RefusalsTest(Scene scene) {
     this.scene = scene;
-    looks = looks(scene.terms);
-    sequels = List.of(nextOfEach(scene.terms), closings());
   }
 
   public static void main(String[] args) {
@@ -44,9 +38,9 @@ public final class RefusalsTest {
     refusals.addAll(badShapesBeforeAnyOtherAnswer());
     refusals.addAll(thingsThatAreFull());
     refusals.addAll(thingsThatAreNone());
+    Unchanged unchanged = new Unchanged(DUE, scene);
     for (Refusal refusal : refusals) {
-      changesNothingNow(refusal);
-      changesNothingLater(refusal);
+      unchanged.by(refusal.call(), refusal.due());
     }
   }
 
@@ -59,7 +53,8 @@ public final class RefusalsTest {
       DUE.is(scene.name + ": differ(0, 0)", x.differ(0, 0), number);
     }
     DUE.is(scene.name + ": open()", x.open(), scene.levels == 6 ? FULL : scene.levels + 1);
-    DUE.is(scene.name + ": fits", scene.callsToBuild() + 2 * LOOKS_AT_ONCE < 512, true);
+    int calls = scene.callsToBuild() + 2 * Unchanged.LOOKS_AT_ONCE + 1;
+    DUE.is(scene.name + ": no more than 512 calls", calls <= 512, true);
   }
 
   // 'A number that is no number of a term that is there is BAD as a term', and weight's 0
@@ -189,80 +184,5 @@ public final class RefusalsTest {
 
   private Set<Integer> firstAndLast() {
     return scene.terms == 0 ? Set.of() : new TreeSet<>(List.of(0, scene.terms - 1));
-  }
-
-  /** What the object tells of its state, asked before the call and again behind it. */
-  private void changesNothingNow(Refusal refusal) {
-    for (int from = 0; from < looks.size(); from += LOOKS_AT_ONCE) {
-      List<Call> some = looks.subList(from, Math.min(looks.size(), from + LOOKS_AT_ONCE));
-      CongruenceLedger x = scene.build();
-      List<Long> before = askAll(x, some);
-      DUE.is(scene.name + ": " + refusal.call().text(), refusal.call().ask(x), refusal.due());
-      for (int i = 0; i < some.size(); i++) {
-        Call look = some.get(i);
-        String what = scene.name + ": " + look.text() + " behind " + refusal.call().text();
-        DUE.is(what, look.ask(x), before.get(i));
-      }
-    }
-  }
-
-  /** What comes next, and what is left as each level is closed, with the call and without it. */
-  private void changesNothingLater(Refusal refusal) {
-    for (List<Call> sequel : sequels) {
-      CongruenceLedger without = scene.build();
-      CongruenceLedger with = scene.build();
-      refusal.call().ask(with);
-      for (Call call : sequel) {
-        String what = scene.name + ": " + call.text() + " some calls behind " + refusal.call().text();
-        DUE.is(what, call.ask(with), call.ask(without));
-      }
-    }
-  }
-
-  private static List<Long> askAll(CongruenceLedger x, List<Call> calls) {
-    List<Long> answers = new ArrayList<>();
-    for (Call call : calls) {
-      answers.add(call.ask(x));
-    }
-    return answers;
-  }
-
-  private static List<Call> looks(int terms) {
-    List<Call> looks = new ArrayList<>(
-        List.of(Call.terms(), Call.equations(), Call.classes(), Call.consistent()));
-    for (int t = 0; t < terms; t++) {
-      looks.addAll(List.of(Call.leader(t), Call.members(t), Call.weight(t), Call.best(t)));
-    }
-    Set<Integer> chosen = new TreeSet<>();
-    for (int t : new int[] {0, 1, terms - 2, terms - 1}) {
-      if (t >= 0 && t < terms) {
-        chosen.add(t);
-      }
-    }
-    for (int s : chosen) {
-      looks.addAll(List.of(Call.written(s, 0), Call.written(s, 1), Call.find(14, s, NONE)));
-      for (int t : chosen) {
-        looks.addAll(List.of(Call.equal(s, t), Call.apart(s, t), Call.since(s, t),
-            Call.explanation(s, t), Call.needed(s, t), Call.find(8, s, t)));
-      }
-    }
-    return looks;
-  }
-
-  /** The numbers that the next of each get. */
-  private static List<Call> nextOfEach(int terms) {
-    int last = Math.max(0, terms - 1);
-    return List.of(Call.differ(0, 0), Call.equate(0, last), Call.equate(0, 1), Call.make(13, NONE, NONE),
-        Call.make(13, 0, NONE), Call.since(0, last), Call.explanation(0, 1), Call.open(), Call.close());
-  }
-
-  /** What each level leaves when it is closed, down to the last and once more. */
-  private static List<Call> closings() {
-    List<Call> calls = new ArrayList<>();
-    for (int level = 6; level >= 0; level--) {
-      calls.addAll(List.of(Call.close(), Call.terms(), Call.equations(), Call.classes(),
-          Call.consistent(), Call.differ(0, 0)));
-    }
-    return calls;
   }
 }

@@ -15,6 +15,7 @@ final class Scene {
   int disequations = 0;
   int levels = 0;
   private final List<Call> calls = new ArrayList<>();
+  private final List<Call> makings = new ArrayList<>();
 
   private Scene(String name) {
     this.name = name;
@@ -32,9 +33,25 @@ final class Scene {
     return calls.size();
   }
 
+  List<Call> calls() {
+    return List.copyOf(calls);
+  }
+
+  /** The call that made term t, which is there. */
+  Call makingOf(int t) {
+    return makings.get(t);
+  }
+
   static List<Scene> all() {
-    return List.of(empty(), oneTerm(), small(), afterClosing(), fullOfTerms(), fullOfEquations(),
-        fullOfDisequations(), fullOfLevels(), allFull());
+    List<Scene> all = new ArrayList<>(List.of(empty(), oneTerm(), afterClosing(), fullOfTerms(),
+        fullOfEquations(), fullOfDisequations(), fullOfLevels(), allFull()));
+    all.addAll(fewOfEach());
+    return all;
+  }
+
+  /** Those that are small enough for every pair of questions to be asked. */
+  static List<Scene> fewOfEach() {
+    return List.of(small(), another(), contradicted());
   }
 
   static Scene empty() {
@@ -52,12 +69,27 @@ final class Scene {
     return scene.equation(2, 3).disequation(3, 0).term(8, 2, 3).term(7, 6, NONE);
   }
 
+  /** As many of each as in small, and as many classes, but not the same ones. */
+  static Scene another() {
+    Scene scene = new Scene("as much of each").constants(4);
+    scene.term(9, 2, NONE).term(10, 3, 1).equation(2, 3).equation(4, 1).disequation(0, 2).level();
+    return scene.equation(0, 2).disequation(4, 5).term(8, 4, 5).term(7, 5, NONE);
+  }
+
+  /** Its disequations contradict its equations, before its level and in it. */
+  static Scene contradicted() {
+    Scene scene = new Scene("contradicted").constants(3).term(9, 0, NONE).term(9, 1, NONE);
+    scene.equation(0, 1).disequation(4, 3).disequation(2, 0).level();
+    return scene.equation(2, 3).disequation(1, 1).term(10, 2, 0);
+  }
+
   /** What was closed must not come back. */
   static Scene afterClosing() {
     Scene scene = new Scene("after closing").constants(3).equation(0, 1).disequation(1, 2).level();
     scene.term(9, 0, NONE).term(9, 1, NONE).equation(0, 2).disequation(0, 0);
     scene.calls.add(Call.close());
     scene.terms = 3;
+    scene.makings.subList(3, scene.makings.size()).clear();
     scene.equations = 1;
     scene.disequations = 1;
     scene.levels = 0;
@@ -122,7 +154,9 @@ final class Scene {
   }
 
   private Scene term(int symbol, int a, int b) {
-    calls.add(Call.make(symbol, a, b));
+    Call making = Call.make(symbol, a, b);
+    calls.add(making);
+    makings.add(making);
     terms++;
     return this;
   }

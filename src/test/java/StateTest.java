@@ -79,6 +79,8 @@ public final class StateTest {
     DUE.is("an equal argument makes another term", x.make(2, 1, NONE), 4);
     DUE.is("which is equal at once", x.equal(4, 2), 1);
     DUE.is("terms", x.terms(), 5);
+    DUE.is("one that is equal to a lower one keeps its number", x.make(1, NONE, NONE), 1);
+    DUE.is("so does the other", x.make(2, 1, NONE), 4);
   }
 
   // Promise 2

@@ -9,7 +9,9 @@ public final class WritingTest {
     throughEqualTerms();
     bestIsTheLowestOfTheLightest();
     bestMayBeHigherThanTheLeader();
+    bestAtEachPlace();
     weightsComeFromLaterTerms();
+    weightsComeThroughManyTerms();
     cyclesAreWrittenOut();
     greatestWeight();
     chainOfForty();
@@ -93,6 +95,25 @@ public final class WritingTest {
     writing(x, 2, 3, 0);
   }
 
+  // 'The SHORTEST WRITING chooses the best term at each place', not one that is as light
+  private static void bestAtEachPlace() {
+    CongruenceLedger x = new CongruenceLedger();
+    x.make(3, NONE, NONE); // 0
+    x.make(4, NONE, NONE); // 1
+    x.make(5, 0, NONE); // 2
+    x.make(6, 1, NONE); // 3
+    x.make(7, 1, 3); // 4
+    x.make(8, 4, 1); // 5
+    writing(x, 5, 8, 7, 4, 6, 4, 4);
+    x.equate(1, 0);
+    DUE.is("best(1)", x.best(1), 0);
+    writing(x, 5, 8, 7, 3, 6, 3, 3);
+    x.equate(3, 2);
+    DUE.is("best(3)", x.best(3), 2);
+    writing(x, 4, 7, 3, 5, 3);
+    writing(x, 5, 8, 7, 3, 5, 3, 3);
+  }
+
   // A class may get lighter by a class whose terms all have higher numbers
   private static void weightsComeFromLaterTerms() {
     CongruenceLedger x = new CongruenceLedger();
@@ -112,6 +133,31 @@ public final class WritingTest {
     writing(x, 9, 2, 3, 5);
     DUE.is("weight(6)", x.weight(6), 127);
     DUE.is("best(8)", x.best(8), 10);
+  }
+
+  /** Of 16 heavy terms each is equal to one with the next of them below it, and the last is light. */
+  private static void weightsComeThroughManyTerms() {
+    CongruenceLedger x = new CongruenceLedger();
+    x.make(0, NONE, NONE);
+    for (int i = 1; i <= 6; i++) {
+      x.make(1, i - 1, i - 1);
+    }
+    for (int i = 0; i < 16; i++) {
+      x.make(i, 6, NONE); // 7 + i
+    }
+    for (int i = 0; i < 15; i++) {
+      x.make(14, 8 + i, NONE); // 23 + i
+      x.equate(7 + i, 23 + i);
+    }
+    DUE.is("each by way of the last", x.weight(22), 128);
+    DUE.is("the first is no lighter than before", x.weight(7), 128);
+    DUE.is("a constant", x.make(2, NONE, NONE), 38);
+    x.equate(38, 22);
+    for (int i = 0; i < 16; i++) {
+      DUE.is("weight(" + (7 + i) + ")", x.weight(7 + i), 16 - i);
+      DUE.is("best(" + (7 + i) + ")", x.best(7 + i), i < 15 ? 23 + i : 38);
+    }
+    writing(x, 19, 14, 14, 14, 2);
   }
 
   private static void cyclesAreWrittenOut() {
